@@ -17,7 +17,7 @@ public final class CellTrays {
     private int kindCount;
     private final int[] kindSize = new int[MOST_KINDS];
     private final int[] kindStep = new int[MOST_KINDS];
-    // Both are kept, so that nothing divides by a size but the method that has just tested it.
+    // Cells and what is left by them are kept, so that only kind() divides, behind its test of the size.
     private final int[] kindCells = new int[MOST_KINDS];
     private final int[] kindRest = new int[MOST_KINDS];
     private final int[] kindNextOffset = new int[MOST_KINDS];
@@ -120,8 +120,8 @@ public final class CellTrays {
         while (moves < MOST_THINGS) {
             int from = leastPartly(kind);
             int to = mostPartly(kind);
-            // The same tray, or none twice, means that fewer than two are partly taken.
-            if (from == to) {
+            // The same tray, or none, means that fewer than two are partly taken.
+            if (from == NONE || to == NONE || from == to) {
                 break;
             }
             moveLast(from, to);
@@ -396,12 +396,11 @@ public final class CellTrays {
     private void addTray(int place, int kind) {
         trayKind[place] = kind;
         trayOffset[place] = kindNextOffset[kind];
-        trayThings[place] = 0;
         int next = kindNextOffset[kind] + kindStep[kind];
         kindNextOffset[kind] = next > kindRest[kind] ? 0 : next;
     }
 
-    /** Only for an empty tray: its cells are free already, as the next tray there needs them. */
+    /** Only for an empty tray: the next one at its place finds its row free and no things counted. */
     private void dropTray(int place) {
         trayKind[place] = NONE;
         goneCount++;
@@ -425,7 +424,6 @@ public final class CellTrays {
         cellThing[place * WIDTH + thingCell[thing]] = NONE;
         trayThings[place]--;
         thingPlace[thing] = NONE;
-        thingCell[thing] = NONE;
     }
 
     private void moveLast(int from, int to) {

@@ -18,6 +18,7 @@ public final class PromisesTest {
         sweep();
         pack();
         packBreaksTies();
+        packFindsFewestAndMost();
         packFails();
         told();
         tray();
@@ -303,6 +304,23 @@ public final class PromisesTest {
         Check.due("6: 8 3 0", "8 3 0", () -> things(y, 3));
         Check.due("6: the first two", "0 23 2 3 4 5 6 7", () -> cells(y, 0));
         Check.due("6: then the next", "8 16 -1 -1 -1 -1 -1 15", () -> cells(y, 1));
+    }
+
+    private static void packFindsFewestAndMost() {
+        CellTrays x = withKinds(16);
+        putMany(x, 0, 12);
+        takeAll(x, 0, 1, 2, 5, 8, 9);
+        Check.due("6: 1 3 2", "1 3 2", () -> things(x, 3));
+        Check.due("6: one move", 1, () -> x.pack(0));
+        Check.due("6: the fewest at the first place", "0 4 2", () -> things(x, 3));
+        Check.due("6: its thing in the free cell", "4 3 6 7", () -> cells(x, 1));
+
+        CellTrays y = withKinds(16);
+        putMany(y, 0, 12);
+        takeAll(y, 0, 1, 5, 6, 7, 11);
+        Check.due("6: 2 1 3", "2 1 3", () -> things(y, 3));
+        Check.due("6: one move", 1, () -> y.pack(0));
+        Check.due("6: the fewest in the middle", "2 0 4", () -> things(y, 3));
     }
 
     private static void packFails() {
