@@ -1,13 +1,27 @@
 /** Compares answers with those that are due, and ends the test with exit code 1 if one differs. */
 final class Check {
+    static final Class<IllegalArgumentException> ILLEGAL = IllegalArgumentException.class;
+    static final Class<IllegalStateException> STATE = IllegalStateException.class;
+    static final Class<IndexOutOfBoundsException> INDEX = IndexOutOfBoundsException.class;
+
     interface Call {
         Object answer();
     }
 
+    private static String test = "";
     private static int checks = 0;
     private static int wrong = 0;
 
     private Check() {
+    }
+
+    /** What is printed ahead of each wrong answer from now on. */
+    static void name(String name) {
+        test = name;
+    }
+
+    static int checks() {
+        return checks;
     }
 
     static void due(String call, Object want, Call made) {
@@ -23,7 +37,7 @@ final class Check {
         checks++;
         if (!want.equals(got)) {
             wrong++;
-            System.out.println(call + " answered " + got + ", due is " + want);
+            System.out.println(test + call + " answered " + got + ", due is " + want);
         }
     }
 
