@@ -274,6 +274,17 @@ public final class ChangesEdgesTest {
 
     private static void packChooses(Edges edges) {
         edges
+            .test("Moves things of a kind together", () -> {
+                CellTrays x = Trays.withKinds(16, 16);
+                Trays.putMany(x, 0, 8);
+                Trays.putMany(x, 1, 8);
+                Trays.takeAll(x, 0, 1, 4, 8, 9, 12);
+                Check.due("two partly taken ones of each", "2 3 2 3", () -> Trays.things(x, 4));
+                Check.due("the first kind's", 1, () -> x.pack(0));
+                Check.due("there alone", "1 4 2 3", () -> Trays.things(x, 4));
+                Check.due("the second kind's", 1, () -> x.pack(1));
+                Check.due("there alone", "1 4 1 4", () -> Trays.things(x, 4));
+            })
             .test("of the one with the fewest things", () -> {
                 CellTrays x = threeWithout(0, 1, 2, 4, 5, 8);
                 Check.due("1 2 3", "1 2 3", () -> Trays.things(x, 3));
@@ -341,6 +352,13 @@ public final class ChangesEdgesTest {
                 Trays.takeAll(y, 0, 6, 7);
                 y.pack(0);
                 Check.due("not the last cell, but the last taken one", "4 -1 -1 -1", () -> Trays.cells(y, 1));
+                CellTrays z = Trays.withKinds(1, 1);
+                Trays.putMany(z, 0, 66);
+                Trays.putMany(z, 1, 2);
+                Trays.takeAll(z, 63);
+                Check.due("one move", 1, () -> z.pack(0));
+                Check.due("none of the tray behind it", "64 1 2", () -> Trays.things(z, 3));
+                Check.due("the one that is moved", 65, () -> z.cell(0, 63));
             })
             .test("the free cell with the smallest number", () -> {
                 CellTrays x = Trays.withKinds(16);

@@ -418,8 +418,11 @@ public final class TermsEdgesTest {
             Trays.takeAll(x, 0, 1, 2, 3, 5, 20, 21);
             return x;
         }
-        CellTrays x = state == 3 ? Trays.withKinds(32, 31, 3, 4, 5, 6) : Trays.withKinds(1, 2, 3, 4, 5, 6);
-        Trays.putMany(x, 0, state == 3 ? 40 : 150);
+        // The kinds in use have a next offset other than 0, so that its loss is seen.
+        CellTrays x = state == 3 ? Trays.withKinds(31, 29, 3, 4, 5, 6) : Trays.withKinds(3, 5, 7, 1, 2, 4);
+        Trays.putMany(x, 0, state == 3 ? 28 : 100);
+        Trays.putMany(x, 1, state == 3 ? 12 : 45);
+        Trays.putMany(x, 2, state == 3 ? 0 : 5);
         x.take(3);
         return x;
     }
@@ -440,8 +443,9 @@ public final class TermsEdgesTest {
             Check.fails("spares", Check.INDEX, () -> x.spares(wrong));
             Check.fails("room", Check.INDEX, () -> x.room(wrong));
         }
-        if (things >= 40) {
-            Check.fails("put", Check.STATE, () -> x.put(1));
+        for (int kind = 1; kind < 6 && things >= 40; kind++) {
+            int full = kind;
+            Check.fails("put", Check.STATE, () -> x.put(full));
         }
         if (things > 0) {
             Check.fails("take", Check.STATE, () -> x.take(3));
